@@ -470,7 +470,7 @@ public final class VisitorLoom {
             return count;
         }
 
-        /** Of changes for one minute the one told last stands first, so that the first one that fits is the one that counts. */
+        /** Of changes for one minute the one told last stands first: so the first that fits is the one that counts. */
         void addChange(int purpose, int from, boolean isGiven) {
             if (!isPurpose(purpose)) {
                 return;

@@ -3,7 +3,7 @@ import java.util.Arrays;
 /** Long runs of calls, drawn by fixed numbers, on the program and on the model; every answer must be the same. */
 public final class ModelTest {
     private static final Checks checks = new Checks();
-    private static final int RUNS = 240;
+    private static final int RUNS = 120;
     private static final int CALLS = 512;
     private static final String[] NAMES = {
         "event", "skew", "share", "link", "consent", "group", "forget", "pass", "profile", "profileAnew", "events",
