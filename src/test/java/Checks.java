@@ -56,6 +56,10 @@ final class Checks {
         return wrong;
     }
 
+    int done() {
+        return done;
+    }
+
     void end() {
         System.out.println(done + " checks, " + wrong + " wrong");
         if (wrong != 0 || done == 0) {
