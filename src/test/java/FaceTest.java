@@ -3,7 +3,9 @@ import java.lang.reflect.Field;
 import java.lang.reflect.Member;
 import java.lang.reflect.Method;
 import java.lang.reflect.Modifier;
+import java.util.ArrayList;
 import java.util.Arrays;
+import java.util.List;
 import java.util.Map;
 import java.util.Set;
 import java.util.TreeMap;
@@ -23,6 +25,7 @@ public final class FaceTest {
         constructorIsTheDocuments(face);
         fieldsAreTheDocuments(face);
         insidersAreHiddenAndStatic(face);
+        classesAreSmall(face);
         checks.end();
     }
 
@@ -102,6 +105,31 @@ public final class FaceTest {
             checks.yes(inside.getSimpleName(), Modifier.isStatic(modifiers) && !Modifier.isPublic(modifiers)
                     && !Modifier.isProtected(modifiers));
         }
+    }
+
+    /** The numbers of rule 11, and the names and statics of rules 1 and 5 for the classes inside too. */
+    private static void classesAreSmall(Class<?> face) {
+        Set<String> open = dueMethods().keySet();
+        List<Class<?>> all = new ArrayList<>(List.of(face.getDeclaredClasses()));
+        all.add(face);
+        for (Class<?> each : all) {
+            long fields = Arrays.stream(each.getDeclaredFields()).filter(f -> !isConstant(f)).count();
+            checks.yes(each.getSimpleName() + " has " + fields + " fields", fields <= 20);
+            for (Field field : each.getDeclaredFields()) {
+                checks.yes(field + " is final, if static", isConstant(field) || !Modifier.isStatic(field.getModifiers()));
+            }
+            for (Constructor<?> constructor : each.getDeclaredConstructors()) {
+                checks.yes(constructor + " has few parameters", constructor.getParameterCount() <= 7);
+            }
+            for (Method method : each.getDeclaredMethods()) {
+                checks.yes(method + " has few parameters", method.getParameterCount() <= 7);
+                checks.yes(method + " bears a name of its own", each == face || !open.contains(method.getName()));
+            }
+        }
+    }
+
+    private static boolean isConstant(Field field) {
+        return Modifier.isStatic(field.getModifiers()) && Modifier.isFinal(field.getModifiers());
     }
 
     private static boolean isHidden(Member member) {
